@@ -74,9 +74,9 @@ public final class SkyBox {
     }
 
     public int act(int kind, int pilot, int worth, int climb, int home, int fuel) {
-        boolean told = isWithin(kind, 0, 3) && isWithin(pilot, 0, 7) && isWithin(worth, 0, 100);
+        boolean showable = isWithin(kind, 0, 3) && isWithin(pilot, 0, 7) && isWithin(worth, 0, 100);
         boolean flyable = isWithin(climb, 1, 20) && isWithin(home, 1, 20) && isWithin(fuel, 1, 120);
-        if (!told || !flyable || show.size >= MAX_ACTS) {
+        if (!showable || !flyable || show.size >= MAX_ACTS) {
             return NONE;
         }
         return show.add(new Act(kind, pilot, worth, climb, home, fuel));
@@ -172,7 +172,8 @@ public final class SkyBox {
         // with nothing to keep, THE MENDING is THE PLAN
         planned.clear();
         isPlanned = true;
-        return mend(n);
+        prepare(n);
+        return planner.replace(planned);
     }
 
     public int mend(int n) {
@@ -180,8 +181,7 @@ public final class SkyBox {
             return NONE;
         }
         prepare(n);
-        planner.replace(planned);
-        return planned.worth;
+        return planner.replace(planned);
     }
 
     public int order(int i) {
@@ -709,7 +709,7 @@ public final class SkyBox {
         static final int LENGTH = 7;
         static final int WORTH = 8;
 
-        static final int MOST_HELD = 30;
+        private static final int MOST_HELD = 30;
         private static final int MAX_RULES = 16;
         private static final int MAX_CODE = 400;
         private static final int KIND_BITS = 5;
@@ -771,10 +771,9 @@ public final class SkyBox {
             }
         }
 
-        /** GAP or SPARE. */
-        int amount(int kind, int[] vars) {
-            int rule = firstThatHolds(kind, vars);
-            if (rule == NONE) {
+        /** What a gap or spare RULE comes to; 0 without one. */
+        int amountOf(int rule, int[] vars) {
+            if (rule < 0 || rule >= size || rule >= MAX_RULES) {
                 return 0;
             }
             return Math.max(0, Math.min(MOST_HELD, work(starts[rule], conditions[rule], vars)));
@@ -796,12 +795,12 @@ public final class SkyBox {
             int top = 0;
             for (int i = Math.max(0, from); i < to && i < MAX_CODE; i++) {
                 int kind = code[i] & KIND_MASK;
-                int var = kind - Scanner.FIRST_VAR;
+                int asked = kind - Scanner.FIRST_VAR;
                 if (kind == Scanner.INT && top < MAX_STACK) {
                     stack[top] = code[i] >> KIND_BITS;
                     top++;
-                } else if (var >= 0 && var < VARS && var < vars.length && top < MAX_STACK) {
-                    stack[top] = vars[var];
+                } else if (asked >= 0 && asked < VARS && asked < vars.length && top < MAX_STACK) {
+                    stack[top] = vars[asked];
                     top++;
                 } else if (top >= 2) {
                     top--;
@@ -987,7 +986,6 @@ public final class SkyBox {
         /** The first MINUTE from each on in which the box is closed, by BIRDS, RESCUE or evening. */
         final int[] openTill = new int[MINUTES];
         final int[] ready = new int[MAX_ACTS];
-        private final boolean[] closed = new boolean[MINUTES];
 
         Sky() {
             Arrays.fill(base, CLEAR);
@@ -997,7 +995,7 @@ public final class SkyBox {
         void learn(Facts facts, int n) {
             Arrays.fill(base, NONE);
             Arrays.fill(ready, 0);
-            Arrays.fill(closed, false);
+            Arrays.fill(openTill, MINUTES);
             for (int i = 0; i < n && i < facts.kinds.length; i++) {
                 learnOne(facts.kinds[i], facts.firsts[i], facts.seconds[i]);
             }
@@ -1012,7 +1010,7 @@ public final class SkyBox {
                 ready[first] = second;
             } else if (kind == Facts.CLOSED && first >= 0 && second <= MINUTES) {
                 for (int minute = first; minute < second; minute++) {
-                    closed[minute] = true;
+                    openTill[minute] = minute;
                 }
             }
         }
@@ -1028,12 +1026,8 @@ public final class SkyBox {
         }
 
         private void lookAhead() {
-            int till = MINUTES;
-            for (int minute = MINUTES - 1; minute >= 0; minute--) {
-                if (closed[minute]) {
-                    till = minute;
-                }
-                openTill[minute] = till;
+            for (int minute = MINUTES - 2; minute >= 0; minute--) {
+                openTill[minute] = Math.min(openTill[minute], openTill[minute + 1]);
             }
         }
     }
@@ -1151,7 +1145,9 @@ public final class SkyBox {
         void begin(Text rules) {
             text = rules;
             trial.clear();
-            Arrays.fill(taken, false);
+            for (int minute = 0; minute < MINUTES; minute++) {
+                taken[minute] = false;
+            }
             for (int i = 0; i < lengths.length; i++) {
                 Act each = show.actAt(i / BASES);
                 lengths[i] = each == null ? 0 : show.minutesInBox(each, i % BASES);
@@ -1169,11 +1165,12 @@ public final class SkyBox {
             return text.firstThatHolds(Scanner.OUT, vars);
         }
 
-        /** Puts the best ORDER in place of the former one, of which it keeps what it can. */
-        void replace(Flights former) {
+        /** Puts the best ORDER in place of the former one, of which it keeps what it can: its WORTH. */
+        int replace(Flights former) {
             best.clear();
             extend(former, 0);
             former.copy(best);
+            return best.worth;
         }
 
         /**
@@ -1248,10 +1245,12 @@ public final class SkyBox {
                 return false;
             }
             describeBegin(minute, minutes);
-            if (trial.size > 0 && minute - trial.end() < text.amount(Scanner.GAP, vars)) {
+            int gapRule = trial.size > 0 ? text.firstThatHolds(Scanner.GAP, vars) : NONE;
+            if (minute - trial.end() < text.amountOf(gapRule, vars)) {
                 return false;
             }
-            if (landing - takeOff > act.fuel - text.amount(Scanner.SPARE, vars)) {
+            int spareRule = text.firstThatHolds(Scanner.SPARE, vars);
+            if (landing - takeOff > act.fuel - text.amountOf(spareRule, vars)) {
                 return false;
             }
             if (text.firstThatHolds(Scanner.OUT, vars) != NONE) {

@@ -169,6 +169,27 @@ public final class ActTest {
         for (int height = 0; height < 6; height++) {
             CHECK.due("a figure in height " + height, box.refused(0, height), height >= 4 ? 1 : 0);
         }
+        for (int height = 0; height < 10; height++) {
+            box.cell(height, 90 - 10 * height);
+        }
+        box.ground(0, 70);
+        for (int height = 0; height < 6; height++) {
+            CHECK.due("a figure in height " + height, box.refused(0, height), height <= 2 ? 1 : 0);
+        }
+        box.falls(10);
+        box.ground(0, 1);
+        for (int height = 0; height < 6; height++) {
+            CHECK.due("0 is not as far as 1 in height " + height, box.refused(0, height), 0);
+        }
+        SkyBox top = new SkyBox();
+        top.act(0, 0, 0, 1, 1, 1);
+        top.figure(0, 1, 20, 9, false);
+        top.falls(10);
+        top.cell(9, 99);
+        top.ground(50, 248);
+        CHECK.due("the farthest of all", top.refused(0, 0), 1);
+        top.ground(50, 249);
+        CHECK.due("and no farther", top.refused(0, 0), 0);
     }
 
     private static void lengthHighOrFlat() {
@@ -211,10 +232,13 @@ public final class ActTest {
         box.act(0, 0, 0, 1, 1, 1);
         box.figure(0, 4, 0, 0, true);
         CHECK.due("only high ones, high", box.length(0, 1), 4);
+        box.act(0, 0, 0, 1, 1, 1);
+        box.figure(1, 1, 0, 0, true);
+        CHECK.due("a single minute", box.length(1, 1), 1);
         CHECK.due("only high ones, flat: nothing is left", box.length(0, 0), 0);
         CHECK.due("base -1", box.length(0, -1), -1);
         CHECK.due("base 10", box.length(0, 10), -1);
-        CHECK.due("no such act", box.length(1, 5), -1);
+        CHECK.due("no such act", box.length(2, 5), -1);
         CHECK.due("act -1", box.length(-1, 5), -1);
         CHECK.due("the least", box.length(LEAST, LEAST), -1);
         for (int i = 0; i < 5; i++) {

@@ -7,6 +7,7 @@ public final class RuleTest {
         wrongOut();
         arithmetic();
         conditions();
+        oneTextBehindAnother();
         varsOfTheFirst();
         varsOfALater();
         gap();
@@ -61,15 +62,29 @@ public final class RuleTest {
         CHECK.due(condition, box.out(0, 100, 2), due ? 0 : -1);
     }
 
+    private static void comesTo(String amount, int due) {
+        holds(amount + "==" + due, true);
+        holds(due + "==" + amount, true);
+        holds(amount + "==" + (due + 1), false);
+        holds(amount + "<" + due, false);
+        holds(amount + "<" + (due + 1), true);
+    }
+
     private static void arithmetic() {
-        holds("1+2*3==7", true);
-        holds("(1+2)*3==9", true);
-        holds("10-3-2==5", true);
-        holds("10-(3-2)==9", true);
-        holds("2*3*4-1==23", true);
-        holds("2*(3+4)*(5-6)+20==6", true);
-        holds("1-2*3+4==0-1", true);
-        holds("0007==7", true);
+        comesTo("1+2*3", 7);
+        comesTo("(1+2)*3", 9);
+        comesTo("10-3-2", 5);
+        comesTo("10-(3-2)", 9);
+        comesTo("10-(3-2)-(5-4)*2", 7);
+        comesTo("2*3*4-1", 23);
+        comesTo("2*(3+4)*(5-6)+20", 6);
+        comesTo("1-2*3+4+1", 0);
+        comesTo("0007", 7);
+        comesTo("9998", 9998);
+        // with all that can wait ahead of each of six brackets
+        comesTo("1+2*(1+2*(1+2*(1+2*(1+2*(1+2*(1+2*3))))))", 511);
+        holds("1==2 or 1==1 and 511==1+2*(1+2*(1+2*(1+2*(1+2*(1+2*(1+2*3))))))", true);
+        holds("1==2 or 1==1 and 512==1+2*(1+2*(1+2*(1+2*(1+2*(1+2*(1+2*3))))))", false);
         holds("9999*9999*9999<0", true);
         // 2^31 wraps to below 0
         holds("8*1024*1024*256<0", true);
@@ -100,6 +115,19 @@ public final class RuleTest {
         holds("1==1 and 1==1 and 1==1", true);
         holds("1==2 or 1==2 or 1==1", true);
         holds("1+1<2*2 and 3-1==2", true);
+    }
+
+    /** Nothing is left in the reader, or in a text, of what was read ahead. */
+    private static void oneTextBehindAnother() {
+        SkyBox box = box();
+        String[] broken = {"gap 1+2*(3-(4", "out if 1==2 and 2==3 or 1", "gap 1 if 1==2+(", "out"};
+        for (int i = 0; i < 16; i++) {
+            CHECK.due("a broken one", Check.read(box, broken[i % 4]), 1);
+            CHECK.due("a long one", Check.read(box, "gap 1" + "+1".repeat(190) + ";"), 0);
+            CHECK.due("a short one", Check.read(box, "out if minute==2*(3+4)-" + i + ";"), 0);
+            CHECK.due("holds behind others", box.out(0, 14 - i < 0 ? 100 : 14 - i, 2), 14 - i < 0 ? -1 : 0);
+            CHECK.due("holds not behind others", box.out(0, 20, 2), -1);
+        }
     }
 
     private static void varsOfTheFirst() {

@@ -9,6 +9,7 @@ public final class MendTest {
         thenAsThePlan();
         mendsTheMended();
         notInBoth();
+        keepsAtTheCostOfTime();
         emptyOnes();
         CHECK.end();
     }
@@ -129,6 +130,27 @@ public final class MendTest {
         order("mended", box, 0, 2);
         CHECK.due("plan(3)", box.plan(3), 20);
         order("planned anew", box, 0, 1);
+    }
+
+    /** What is kept shows only with the second ACT, when the first has landed too late already. */
+    private static void keepsAtTheCostOfTime() {
+        SkyBox box = new SkyBox();
+        act(box, 10, 5);
+        box.ready(0, 9);
+        box.ready(0, 0);
+        box.plan(1);
+        CHECK.due("planned late", box.told(0, 1), 10);
+        box.act(0, 0, 10, 1, 20, 120);
+        box.figure(1, 1, 0, 0, false);
+        box.figure(1, 8, 0, 7, true);
+        box.base(6, 5);
+        CHECK.due("mend(3)", box.mend(3), 20);
+        order("kept", box, 1, 0);
+        CHECK.due("begins as before", box.told(0, 1), 10);
+        CHECK.due("count(4)", box.count(4), 30);
+        CHECK.due("plan(3)", box.plan(3), 20);
+        order("planned anew", box, 0, 1);
+        CHECK.due("count(4) anew", box.count(4), 27);
     }
 
     private static void emptyOnes() {

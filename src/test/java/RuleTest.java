@@ -124,6 +124,7 @@ public final class RuleTest {
         for (int i = 0; i < 16; i++) {
             CHECK.due("a broken one", Check.read(box, broken[i % 4]), 1);
             CHECK.due("a long one", Check.read(box, "gap 1" + "+1".repeat(190) + ";"), 0);
+            CHECK.due("a long one again", Check.read(box, "gap 1" + "+1".repeat(190) + ";"), 0);
             CHECK.due("a short one", Check.read(box, "out if minute==2*(3+4)-" + i + ";"), 0);
             CHECK.due("holds behind others", box.out(0, 14 - i < 0 ? 100 : 14 - i, 2), 14 - i < 0 ? -1 : 0);
             CHECK.due("holds not behind others", box.out(0, 20, 2), -1);

@@ -15,6 +15,7 @@ public final class HeldTest {
         worthVar();
         intsThatWrap();
         comparedAtTheEdges();
+        relationsJoined();
         gapIsHeld();
         spareIsHeld();
         firstThatHolds();
@@ -231,6 +232,31 @@ public final class HeldTest {
         holds("0-1<=0-1", true);
         holds("0-1<0-1", false);
         holds("0<0-1", false);
+    }
+
+    /** COND: ALL {'or' ALL}. ALL: REL {'and' REL}. Each REL beside each other, true and not. */
+    private static void relationsJoined() {
+        String[] rels = {"1==1", "1!=2", "1<2", "1<=2", "2<=2", "1==2", "1!=1", "2<2", "3<=2"};
+        int trueOnes = 5;
+        for (int i = 0; i < rels.length; i++) {
+            boolean first = i < trueOnes;
+            for (int j = 0; j < rels.length; j++) {
+                boolean second = j < trueOnes;
+                holds(rels[i] + " and " + rels[j], first && second);
+                holds(rels[i] + " or " + rels[j], first || second);
+            }
+        }
+        for (int bits = 0; bits < 16; bits++) {
+            boolean[] is = new boolean[4];
+            String[] rel = new String[4];
+            for (int i = 0; i < 4; i++) {
+                is[i] = (bits >> i & 1) == 1;
+                rel[i] = is[i] ? "1<=1" : "1<1";
+            }
+            holds(rel[0] + " or " + rel[1] + " and " + rel[2] + " or " + rel[3], is[0] || is[1] && is[2] || is[3]);
+            holds(rel[0] + " and " + rel[1] + " or " + rel[2] + " and " + rel[3], is[0] && is[1] || is[2] && is[3]);
+            holds(rel[0] + " and " + rel[1] + " and " + rel[2] + " or " + rel[3], is[0] && is[1] && is[2] || is[3]);
+        }
     }
 
     /** When a second ACT begins; the first has ended in MINUTE 6. */

@@ -7,8 +7,8 @@ import java.util.function.Consumer;
 
 /**
  * Two objects with one past. A call that is refused goes to one of them alone, and all that both
- * are asked later must be answered alike: then nothing has happened. The later calls are some
- * 260, so a past may have 250 of them: what an object answers behind its 512th call is free.
+ * are asked later must be answered alike: then nothing has happened. The later calls are 310 at
+ * most, so a past may have 200 of them: what an object answers behind its 512th call is free.
  */
 final class Twin {
     private final Check check;

@@ -6,6 +6,7 @@ public final class RankTest {
         noActs();
         mostWorthOfAll();
         worthOfSixActs();
+        soonestOfSixActs();
         soonestLastLanding();
         noActsAheadOfAll();
         firstActTheLeast();
@@ -95,6 +96,20 @@ public final class RankTest {
         CHECK.due("order(6)", box.order(6), -1);
         CHECK.due("mend", box.mend(0), 600);
         order("six", box, 0, 1, 2, 3, 4, 5);
+    }
+
+    /** Of all ORDERS of six, not the first that can be. */
+    private static void soonestOfSixActs() {
+        SkyBox box = new SkyBox();
+        int[] homes = {1, 2, 3, 4, 5, 20};
+        for (int home : homes) {
+            act(box, 10, 5, 1, home);
+        }
+        CHECK.due("plan", box.plan(0), 60);
+        // 5 must be first or second to land up to 32; 1, 5, 2, 3, 4, 0 wants the runway twice in 31
+        order("six", box, 1, 5, 2, 4, 3, 0);
+        CHECK.due("last landing", box.count(4), 32);
+        CHECK.due("the landing of 5", box.told(5, 3), 31);
     }
 
     /** Of these the one whose last landing is the soonest: the latest landing of all in it. */
